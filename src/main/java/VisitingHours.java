@@ -35,6 +35,7 @@ public final class VisitingHours {
     private static final int TREATY_LEAST = 2;
     private static final int TREATY_FINE = 4;
     private static final int SETS = 256;
+    private static final int ABOVE_WISHES = 1000;
 
     /** What a token is: a sign, a number, or a word; those of facts stand in one row. */
     private static final int END = 0;
@@ -361,7 +362,6 @@ public final class VisitingHours {
     public int row(int host, int guests, boolean set) throws IndexOutOfBoundsException {
         needHost(host);
         int best = 0;
-        fill(behind, NONE);
         put(behind, 0, 0);
         for (int some = 1; some < 1 << now.people.guests; some++) {
             if ((some & ~guests) != 0) {
@@ -1911,7 +1911,7 @@ public final class VisitingHours {
         private void ask(int[] wishes, int[] answers, int[] asking, int[] answering) {
             fill(asking, NONE);
             fill(answering, NONE);
-            fill(asked, MOST_GLADNESS);
+            fill(asked, ABOVE_WISHES);
             boolean some = true;
             for (int round = 0; round < TABLE && some; round++) {
                 some = false;
@@ -2020,28 +2020,33 @@ public final class VisitingHours {
             if (host >= hosts || host >= MOST) {
                 return rivals() == 0 ? 1 : 0;
             }
-            if (get(hostBests, host) == NONE) {
-                put(mate, host, NONE);
-                return waysFrom(host + 1, used);
-            }
             int sum = 0;
-            for (int guest = 0; guest < guests; guest++) {
-                if (!has(used, guest)) {
+            for (int guest = NONE; guest < guests; guest++) {
+                if (mayHave(host, guest, used)) {
                     sum += waysWith(host, guest, used);
                 }
             }
             return sum;
         }
 
-        private int waysWith(int host, int guest, int used) {
+        /** The GUEST is not used and stands between the best and the worst one of the HOST; or both are none. */
+        private boolean mayHave(int host, int guest, int used) {
+            int best = get(hostBests, host);
+            if (best == NONE || guest == NONE) {
+                return best == guest;
+            }
             int wished = get(wish, MOST * host + guest);
-            int most = get(wish, MOST * host + get(hostBests, host));
+            int most = get(wish, MOST * host + best);
             int least = get(wish, MOST * host + get(guestBests, host));
-            if (wished == 0 || wished < least || wished > most) {
+            return wished >= least && wished <= most && !has(used, guest);
+        }
+
+        private int waysWith(int host, int guest, int used) {
+            put(mate, host, guest);
+            if (!isCalmSoFar(host)) {
                 return 0;
             }
-            put(mate, host, guest);
-            return isCalmSoFar(host) ? waysFrom(host + 1, used | 1 << guest) : 0;
+            return waysFrom(host + 1, guest == NONE ? used : used | 1 << guest);
         }
 
         /** Neither this HOST and a GUEST of one ahead of it nor the other way round would both rather. */
@@ -2049,7 +2054,8 @@ public final class VisitingHours {
             int own = get(mate, host);
             for (int one = 0; one < host; one++) {
                 int guest = get(mate, one);
-                if (guest != NONE && (wouldBoth(host, guest, own, one) || wouldBoth(one, own, guest, host))) {
+                boolean both = own != NONE && guest != NONE;
+                if (both && (wouldBoth(host, guest, own, one) || wouldBoth(one, own, guest, host))) {
                     return false;
                 }
             }

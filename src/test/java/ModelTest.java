@@ -35,7 +35,7 @@ public final class ModelTest {
         long first = args.length > 1 ? Long.parseLong(args[1]) : 1;
         int failed = 0;
         for (long seed = first; seed < first + runs && failed < 3; seed++) {
-            int size = seed % 50 == 0 ? 6 : seed % 10 == 0 ? 5 : seed % 3 == 0 ? 3 : 4;
+            int size = args.length > 2 ? Integer.parseInt(args[2]) : seed % 50 == 0 ? 6 : seed % 10 == 0 ? 5 : seed % 3 == 0 ? 3 : 4;
             String wrong = new ModelTest(seed, size).run();
             if (wrong != null) {
                 failed++;

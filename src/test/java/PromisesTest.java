@@ -186,6 +186,9 @@ public final class PromisesTest {
         wrongGround("rain 5 rain 6", 7);
         wrongGround("rain 5;rainy 6", 7);
         wrongGround("Rain 5", 0);
+        wrongGround("rainz 5", 0);
+        wrongGround("seek 5", 0);
+        wrongGround("week 5;gain 5", 7);
         wrongGround("rain 101", 5);
         wrongGround("rain 0001", 5);
         wrongGround("rain -1", 5);
@@ -258,6 +261,9 @@ public final class PromisesTest {
         T.is("wrong", () -> Checks.law(x, "glad 3;glad"), ARGUMENT);
         T.is("the tape was used up", () -> x.end(1), false);
         T.is("the one before stays", () -> x.joy(0, 0, 0), 7);
+        T.is("a 0 and a 99", () -> Checks.law(x, "glad 0;glad 99"), 2);
+        T.is("joy", () -> x.joy(0, 0, 0), 104);
+        T.is("the longest text", () -> Checks.law(x, "glad 1 if 1<" + repeat("1", 194, "+")), 1);
         T.is("12 lines", () -> Checks.law(x, repeat("glad 1", 12, " ; ")), 12);
         T.is("joy", () -> x.joy(0, 0, 0), 17);
         T.is("empty", () -> Checks.law(x, ""), 0);
@@ -272,7 +278,8 @@ public final class PromisesTest {
             {"host+guest+quarter>5", 0, 0, 0, 1}, {"marked or quarter>3 and rank>8", 1, 1, 0, 1}, {"(marked or quarter>3) and rank>8", 1, 0, 0, 1},
             {"not (marked or quarter>3)", 0, 0, 1, 0}, {"not marked or quarter>3", 0, 1, 1, 1}, {"not not marked", 1, 1, 0, 0},
             {"guest<1 or expected or host>0 and host>1", 1, 1, 1, 0}, {"not rank>5 and quarter>3", 0, 1, 0, 0}, {"rank<9", 0, 1, 0, 0},
-            {"5<6", 1, 1, 1, 1}, {"5>5", 0, 0, 0, 0}, {"5<5", 0, 0, 0, 0}, {"999>998+0", 1, 1, 1, 1}};
+            {"5<6", 1, 1, 1, 1}, {"5>5", 0, 0, 0, 0}, {"5<5", 0, 0, 0, 0}, {"999>998+0", 1, 1, 1, 1},
+            {"not 5<6", 0, 0, 0, 0}, {"not 6>5 or not expected", 1, 1, 0, 1}, {"not 0>5", 1, 1, 1, 1}};
         VisitingHours y = two();
         Checks.ground(y, "week 7;needs a");
         y.book(0, 2, 3);
@@ -375,6 +382,10 @@ public final class PromisesTest {
         }
         T.is("share, rounded down", () -> x.host(1, 6), 39);
         T.is("free", () -> x.host(1, 4), 52);
+        x.book(0, 0, 0);
+        T.is("free", () -> x.host(0, 4), 4);
+        T.is("booked in all", () -> x.count(8), 4);
+        x.strike(0, 0);
         T.is("sees", () -> x.host(1, 5), 1);
         T.is("another what", () -> x.host(0, 7), ELEMENT);
         T.is("another what", () -> x.host(0, -1), ELEMENT);
@@ -513,12 +524,14 @@ public final class PromisesTest {
         x.book(0, 0, 3);
         T.is("who comes", () -> x.change(0, 1, 3), 2);
         T.is("who went", () -> x.booked(1, 3), 0);
+        T.is("who came", () -> x.booked(0, 3), 2);
         T.is("nobody at all", () -> x.change(0, 1, 7), NONE);
         T.is("acts", () -> x.count(11), 5);
         T.is("both are one", () -> x.change(1, 1, 3), ARGUMENT);
         T.is("both are one, and no quarter", () -> x.change(1, 1, 8), INDEX);
         T.is("no host", () -> x.change(2, 2, 3), INDEX);
         T.is("no other", () -> x.change(0, 2, 3), INDEX);
+        T.is("no first one", () -> x.change(2, 0, 3), INDEX);
         T.is("no quarter", () -> x.change(0, 1, -1), INDEX);
         x.book(0, 1, 2);
         x.change(0, 1, 2);
@@ -648,6 +661,13 @@ public final class PromisesTest {
         T.is("lonely no more", () -> x.host(1, 3), 0);
         x.weeks(1);
         T.is("one with nobody booked settles, too", () -> x.log(1, 4) == 0 && x.log(0, 4) == 1 && x.log(0, 0) == 3, true);
+        VisitingHours z = Checks.with("host patience 0 from 0 to 7;host patience 9 from 0 to 7;guest stay 1 from 0 to 7;guest stay 1 from 0 to 7;needs a");
+        for (int q = 0; q < 8; q++) {
+            z.book(0, q % 2, q);
+            z.book(1, 1 - q % 2, q);
+        }
+        z.weeks(1);
+        T.is("all that is booked with it, and with no other one", () -> z.host(0, 4) + z.host(1, 4), 255);
         VisitingHours y = Checks.with("host patience 0 from 0 to 7;guest stay 1 from 0 to 7");
         y.book(0, 0, 3);
         y.weeks(3);
@@ -691,7 +711,9 @@ public final class PromisesTest {
         x.book(0, 3, 0);
         x.book(0, 3, 1);
         x.book(1, 1, 0);
+        x.book(1, 0, 7);
         T.is("with one host", x::twice, 0);
+        x.strike(1, 7);
         x.book(2, 3, 2);
         T.is("with two", x::twice, 8);
         x.book(1, 3, 4);
@@ -730,6 +752,15 @@ public final class PromisesTest {
         T.is("never", () -> z.hostBest(0), NONE);
         T.is("the guest never", () -> z.hostBest(1), 1);
         T.is("the one that is left", () -> z.hostBest(2), 0);
+        VisitingHours c = Checks.with(repeat("host patience 1 from 0 to 0", 4, ";") + ";" + repeat("guest stay 1 from 0 to 0", 4, ";"));
+        Checks.ground(c, "likes 0 9876;likes 1 9867;likes 2 9768;likes 3 9000;loves 0 1234;loves 1 2134;loves 2 1111;loves 3 1199");
+        T.about("promise 25");
+        T.is("the first call of an object", () -> c.guestBest(3), 0);
+        T.about("promise 24");
+        T.is("one sent away goes to the next", () -> c.hostBest(0), 1);
+        T.is("one sent away goes to the next", () -> c.hostBest(1), 2);
+        T.is("one sent away goes to the next", () -> c.hostBest(2), 3);
+        T.is("the one that is loved the most", () -> c.hostBest(3), 0);
         T.about("promise 25");
         T.is("host 0", () -> x.guestBest(0), 1);
         T.is("host 1", () -> x.guestBest(1), 0);
@@ -762,7 +793,7 @@ public final class PromisesTest {
     private static void rather() {
         T.about("promise 27");
         VisitingHours x = two();
-        int[][] rows = {{0, 2, 1}, {2, 0, 0}, {255, 255, 5}, {0, 0, NONE}, {0, 1, NONE}, {255, 1, NONE}, {1, 255, 4}};
+        int[][] rows = {{0, 2, 1}, {2, 0, 0}, {255, 255, 5}, {0, 0, NONE}, {0, 1, NONE}, {255, 1, NONE}, {1, 255, 4}, {255, 0, 2}};
         for (int[] r : rows) {
             Checks.tell(x, r[0], r[1]);
             T.is("row " + r[0] + " " + r[1], x::rather, r[2]);
@@ -890,6 +921,8 @@ public final class PromisesTest {
         T.is("one fits", x::send, NONE);
         Checks.tell(x, 63, 1, 62, 0, 61, 0, 59, 0, 55, 0, 47, 0);
         T.is("two fit", x::send, 31);
+        Checks.tell(x, 62, 1, 60, 0, 58, 0, 54, 0, 46, 0, 30, 0);
+        T.is("parted by all marks alone", x::send, 63);
         Checks.tell(x, 64, 0);
         T.is("no marks", x::send, ARGUMENT);
         T.is("the tape is used up", () -> x.end(1), false);
@@ -929,6 +962,9 @@ public final class PromisesTest {
         T.is("no guest", () -> x.hand(false), ARGUMENT);
         Checks.tell(x, 255);
         T.is("no guest", () -> x.hand(false), ARGUMENT);
+        VisitingHours z = Checks.with("host patience 1 from 0 to 0;guest stay 1 from 0 to 0;guest stay 1 from 0 to 0;guest stay 1 from 0 to 0;likes 0 565");
+        Checks.tell(z, 0, 2, 1);
+        T.is("like ranks stand rightly", () -> z.hand(true), 2);
         VisitingHours y = Checks.with("guest stay 1 from 0 to 0");
         Checks.tell(y, 0);
         T.is("without hosts", () -> y.hand(false), NONE);
@@ -1015,6 +1051,12 @@ public final class PromisesTest {
         T.is("then the hosts", () -> y.lend(1), 0);
         T.is("then the hosts", () -> y.lend(2), 1);
         T.is("of none", () -> new VisitingHours().lend(NONE), 0);
+        VisitingHours z = new VisitingHours();
+        z.image();
+        Checks.ground(z, "host patience 1 from 0 to 0;guest stay 1 from 0 to 0");
+        T.is("of one", () -> z.lend(NONE), 5);
+        z.back();
+        T.is("of none again", () -> z.lend(NONE), 0);
     }
 
     private static void odds() {
@@ -1073,6 +1115,10 @@ public final class PromisesTest {
         T.is("both are one", () -> x.treaty(1, 1), ARGUMENT);
         T.is("no host", () -> x.treaty(2, 2), INDEX);
         T.is("no host", () -> x.treaty(0, -1), INDEX);
+        T.is("no host", () -> x.treaty(2, 0), INDEX);
+        VisitingHours w = Checks.with("host patience 0 from 0 to 7;host patience 0 from 0 to 0");
+        T.is("neither has more than without one", () -> w.treaty(0, 1), 2);
+        T.is("the other way round", () -> w.treaty(1, 0), 6);
         VisitingHours y = Checks.with("host patience 9 from 0 to 7;host patience 0 from 0 to 7;host patience 3 from 0 to 1;host patience 0 from 0 to 0;host patience 0 from 7 to 7;host patience 9 from 0 to 7");
         T.is("the one that has more by each", () -> y.treaty(0, 1), 3);
         T.is("hours are few", () -> y.treaty(0, 2), 3);
@@ -1127,6 +1173,8 @@ public final class PromisesTest {
         T.is("pairs", z::alike, 6);
         Checks.ground(z, "guest stay 1 from 0 to 0;guest stay 1 from 0 to 0;likes 0 55;likes 1 54;loves 0 1234");
         T.is("other ranks by the hosts", z::alike, 3);
+        z.value(3, 0, true, 4);
+        T.is("other ranks of guest 0", z::alike, 1);
         T.is("none", () -> new VisitingHours().alike(), 0);
     }
 
@@ -1218,6 +1266,21 @@ public final class PromisesTest {
         T.is("the greatest", () -> x.span(3, true), b);
         T.due("they differ", a < b, true);
         T.is("the seed stays", () -> x.seed(1), 77);
+        for (int i = 5; i < 100; i += 5) {
+            VisitingHours y = Checks.with("host patience 9 from 0 to 7;guest stay 1 from 0 to 7;rain " + i);
+            for (int q = 0; q < 8; q++) y.book(0, 0, q);
+            for (int w = 1; w < 4; w++) {
+                int low = Integer.MAX_VALUE;
+                int high = 0;
+                for (int seed = 1; seed <= 6; seed++) {
+                    y.seed(seed);
+                    low = Math.min(low, y.trial(w, false));
+                    high = Math.max(high, y.trial(w, false));
+                }
+                T.due("the least of " + w + " weeks, rain " + i, y.span(w, false), low);
+                T.due("the greatest of " + w + " weeks, rain " + i, y.span(w, true), high);
+            }
+        }
         T.is("0 weeks", () -> x.span(0, true), 0);
         T.is("61", () -> x.span(61, true), ARGUMENT);
         T.is("below 0", () -> x.span(-1, true), ARGUMENT);
@@ -1307,6 +1370,8 @@ public final class PromisesTest {
         T.is("change", () -> x.undo() && x.booked(1, 3) == NONE && x.booked(0, 3) == 2, true);
         T.is("gate", () -> x.undo() && x.count(6) == 0 && x.count(7) == 0, true);
         T.is("value", () -> x.undo() && x.rank(0, 2, true) == 9, true);
+        x.weeks(1);
+        T.is("the log, too", () -> x.undo() && x.log(0, 0) == 6 && x.log(13, 0) == 0 && x.log(14, 0) == -2, true);
         T.is("weeks", () -> x.undo() && x.count(4) == 0 && x.count(9) == 0 && x.count(10) == 0, true);
         T.is("the seed of the weeks", () -> x.seed(1), 1);
         T.is("book", () -> x.undo() && x.booked(0, 3) == NONE, true);
