@@ -852,10 +852,8 @@ public final class VisitingHours {
     }
 
     private static int[] firstOf(int[] row, int many) {
-        int[] first = new int[many < 0 ? 0 : many];
-        for (int i = 0; i < first.length; i++) {
-            first[i] = get(row, i);
-        }
+        int[] first = new int[row == null ? 0 : Math.max(0, Math.min(many, row.length))];
+        copy(row, first);
         return first;
     }
 
@@ -1046,15 +1044,16 @@ public final class VisitingHours {
         }
 
         void next() {
-            if (token + 1 < tokens && token + 1 < kinds.length) {
-                token++;
-                kind = kinds[token];
+            int after = token + 1;
+            if (after >= 0 && after < tokens && after < kinds.length) {
+                token = after;
+                kind = kinds[after];
             }
         }
 
         /** The token that comes next cannot stand there. */
         boolean refuse() {
-            wrong = token < begins.length ? begins[token] : length;
+            wrong = token >= 0 && token < begins.length ? begins[token] : length;
             return false;
         }
 
