@@ -14,6 +14,8 @@ public final class ModelTest {
         "book", "book", "book", "book", "book", "book", "book", "book", "strike", "change", "mark", "gate", "value",
         "weeks", "weeks", "seed", "undo", "image", "back"};
     private static final String[] TOLD = {"rather", "rules", "send", "hand"};
+    /** What an object answers to later calls is free. */
+    private static final int MOST_CALLS = 512;
     private static final int[] ODD = {-1, -2, 8, 9, 60, 61, 63, 64, 255, 256, Integer.MAX_VALUE, Integer.MIN_VALUE, -8};
 
     private final Random random;
@@ -103,12 +105,12 @@ public final class ModelTest {
     private String lookAtAll() throws Exception {
         String wrong = null;
         for (int what = 0; wrong == null && what < 12; what++) wrong = call("count", what);
-        for (int ago = 0; wrong == null && ago < model.count(10); ago++) {
-            for (int what = 0; wrong == null && what < 6; what++) wrong = call("log", ago, what);
-        }
         for (int h = 0; wrong == null && h < model.count(0); h++) {
             for (int what = 0; wrong == null && what < 7; what++) wrong = call("host", h, what);
             for (int q = 0; wrong == null && q < 8; q++) wrong = call("booked", h, q);
+        }
+        for (int ago = 0; wrong == null && calls.size() + 6 <= MOST_CALLS && ago < model.count(10); ago++) {
+            for (int what = 0; wrong == null && what < 6; what++) wrong = call("log", ago, what);
         }
         return wrong;
     }
