@@ -14,6 +14,7 @@ final class ActBounds extends Bounds {
         undoNone();
         undoTwelve();
         undoEachAct();
+        undoOfRows();
         textsForget();
         undoLeaves();
         imageOne();
@@ -265,6 +266,22 @@ final class ActBounds extends Bounds {
         T.is("book", () -> y.undo() && y.booked(1, 1) == NONE, true);
         T.is("book", () -> y.undo() && y.booked(0, 0) == NONE, true);
         T.is("none is left", y::undo, false);
+    }
+
+    private static void undoOfRows() {
+        holds(51, "(but for the TAPE, fault(), THE IMAGE;");
+        VisitingHours x = Checks.with("host patience 0 from 0 to 7;host patience 1 from 0 to 7");
+        x.weeks(40);
+        StringBuilder rows = new StringBuilder();
+        for (int ago = 0; ago < 60; ago++) rows.append(x.log(ago, 0)).append(x.log(ago, 1)).append(' ');
+        x.weeks(60);
+        T.is("all rows are others", () -> x.log(59, 0) > 40, true);
+        x.undo();
+        StringBuilder again = new StringBuilder();
+        for (int ago = 0; ago < 60; ago++) again.append(x.log(ago, 0)).append(x.log(ago, 1)).append(' ');
+        T.due("a full log as it was", again.toString(), rows.toString());
+        x.undo();
+        T.is("an empty log as it was", () -> x.count(10) + x.log(0, 0), -2);
     }
 
     private static void textsForget() {

@@ -16,6 +16,9 @@ abstract class Bounds {
     static final int MAX = Integer.MAX_VALUE;
     static final String HOST = "host patience 9 from 0 to 7";
     static final String GUEST = "guest stay 1 from 0 to 7";
+    /** All words that some text of THE GROUND or THE LAW may have, but for MARKS. */
+    static final String[] WORDS = {"host", "guest", "likes", "loves", "rain", "week", "needs", "bars", "patience", "from", "to", "stay", "marks",
+        "glad", "sour", "admit", "if", "or", "and", "not", "marked", "expected", "quarter", "lonely", "rank", "loved"};
     static final Set<Integer> NAMED = new TreeSet<>();
     private static Document document;
 
@@ -47,6 +50,13 @@ abstract class Bounds {
         VisitingHours x = Checks.with(lines(HOST, hosts));
         Checks.ground(x, lines(GUEST, guests));
         return x;
+    }
+
+    /** Words that are nearly that one: other letters at its ends, one more, one less. */
+    static String[] nearly(String word) {
+        String behind = word.substring(1);
+        String ahead = word.substring(0, word.length() - 1);
+        return new String[] {"x" + behind, ahead + "x", "x" + word, word + "x", behind, ahead, word + word};
     }
 
     /** What is asked about each of the numbers throws that. */

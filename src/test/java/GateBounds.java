@@ -58,6 +58,14 @@ final class GateBounds extends Bounds {
             T.is("let in with " + m, () -> rules(false, marks, 1), 64);
             T.is("not let in with " + m, () -> rules(false, marks, 0), 665);
         }
+        VisitingHours y = new VisitingHours();
+        for (int i = 0; i < 3; i++) {
+            Checks.tell(y, 63, 1);
+            T.is("the same asked again", () -> y.rules(false), 64);
+            T.is("none told behind it", () -> y.rules(false), 729);
+            Checks.tell(y, 0, 0, 0, 1);
+            T.is("none fits", () -> y.rules(false), 0);
+        }
         VisitingHours x = some(1, 1);
         x.gate(5, 2);
         Checks.law(x, "admit");
@@ -168,6 +176,9 @@ final class GateBounds extends Bounds {
         T.is("some", () -> hand(x, true, 2, 7, 5), 2);
         x.value(0, 0, true, 0);
         T.is("a rank of 0 is the least", () -> hand(x, true, 0, 1), 1);
+        x.value(0, 0, true, 9);
+        T.is("what is not told is not looked at", () -> hand(x, true, 3), 0);
+        T.is("what was told before is not looked at", () -> hand(x, true, 5, 4), 0);
     }
 
     private static void handOfLikeRanks() {

@@ -13,6 +13,7 @@ final class GroundBounds extends Bounds {
         eightGuests();
         cutLines();
         strangeThings();
+        otherWords();
         patience();
         stay();
         quartersOfHours();
@@ -185,6 +186,30 @@ final class GroundBounds extends Bounds {
             wrong(line + " zzz", line.length() + 1);
             wrong(line + "  5", line.length() + 2);
             wrong(line + ",", line.length());
+        }
+    }
+
+    private static void otherWords() {
+        holds(4, "a word that is none;");
+        for (String line : LINES) {
+            String[] things = line.split(" ");
+            int at = 0;
+            for (int i = 0; i < things.length; i++) {
+                String ahead = line.substring(0, at);
+                String behind = line.substring(at + things[i].length());
+                for (String word : WORDS) {
+                    if (i > 0 && !word.equals(things[i])) wrong(ahead + word + behind, at);
+                }
+                for (String word : nearly(things[i])) {
+                    if (things[i].matches("[g-z]+|.*[g-z].*") && !word.isEmpty()) wrong(ahead + word + behind, at);
+                }
+                at += things[i].length() + 1;
+            }
+        }
+        for (String word : WORDS) {
+            boolean begins = false;
+            for (String line : LINES) begins |= line.startsWith(word + " ");
+            if (!begins) wrong(word + " 5", 0);
         }
     }
 

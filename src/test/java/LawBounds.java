@@ -7,6 +7,7 @@ final class LawBounds extends Bounds {
         amounts();
         cutLaw();
         strangeThings();
+        otherWords();
         manyParts();
         conditions();
         equalIsNeither();
@@ -160,6 +161,33 @@ final class LawBounds extends Bounds {
         wrong("admit if marked + 1 < 2", 16);
         wrong("admit if 1 + marked < 2", 13);
         wrong("admit if marked expected", 16);
+    }
+
+    private static void otherWords() {
+        holds(5, "a word that is none;");
+        String[] things = WHOLE.split(" ");
+        int at = 0;
+        for (String thing : things) {
+            String ahead = WHOLE.substring(0, at);
+            String behind = WHOLE.substring(at + thing.length());
+            for (String word : new String[] {"likes", "loves", "rain", "needs", "bars", "patience", "from", "to", "stay", "marks"}) wrong(ahead + word + behind, at);
+            for (String word : WORDS) {
+                if (thing.matches("5|if|[<>+]") && !word.equals(thing)) wrong(ahead + word + behind, at);
+                if (thing.matches("[);]") && !word.matches("and|or")) wrong(ahead + word + behind, at);
+            }
+            for (String word : nearly(thing)) {
+                if (thing.matches("[a-z]+")) wrong(ahead + word + behind, at);
+            }
+            at += thing.length() + 1;
+        }
+        for (String word : WORDS) {
+            if (!word.matches("glad|sour|admit")) wrong(word + " 5", 0);
+            if (word.matches("glad|sour|admit|if|or|and")) wrong("admit if " + word + " < 5", 9);
+        }
+        for (String word : new String[] {"quarter", "lonely", "expected"}) {
+            for (String other : nearly(word)) wrong("admit if " + other, 9);
+        }
+        for (String other : nearly("sour")) wrong(other + " 5", 0);
     }
 
     private static void manyParts() {
@@ -406,6 +434,11 @@ final class LawBounds extends Bounds {
         T.is("another guest", () -> x.lets(0, 1, 0), false);
         T.is("another host", () -> x.lets(1, 0, 0), false);
         T.is("another quarter", () -> x.lets(0, 0, 1), false);
+        String[] is = {"not not expected", "expected and marked", "marked and expected", "expected or 2<1", "(expected) and not 2<1"};
+        for (String c : is) T.is(c, () -> holdsNow(x, c, 0, 0, 0), true);
+        T.is("not expected", () -> holdsNow(x, "not expected", 0, 0, 0), false);
+        T.is("not expected", () -> holdsNow(x, "not expected", 0, 1, 0), true);
+        Checks.law(x, "admit if expected");
         x.strike(0, 0);
         T.is("struck", () -> x.lets(0, 0, 0), false);
     }

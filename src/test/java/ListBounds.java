@@ -13,6 +13,7 @@ final class ListBounds extends Bounds {
         savedBits();
         lendMost();
         lendFirstWay();
+        oneBehindAnother();
         lendRefused();
     }
 
@@ -246,6 +247,29 @@ final class ListBounds extends Bounds {
         T.is("one for whom no host is left", () -> x.lend(2), NONE);
         VisitingHours y = some(8, 8);
         for (int g = 0; g < 8; g++) T.due("of like ones", y.lend(g), g);
+    }
+
+    private static void oneBehindAnother() {
+        holds(35, "none being the least, then the HOSTS); none.");
+        int[][] sizes = {{2, 5}, {5, 2}, {0, 3}, {3, 0}, {8, 8}, {1, 8}, {8, 1}};
+        for (int[] size : sizes) {
+            VisitingHours x = some(size[0], size[1]);
+            int less = Math.min(size[0], size[1]);
+            for (int i = 0; i < 2; i++) {
+                T.due("lend", x.lend(NONE), 5 * less);
+                T.due("afternoon", x.afternoon(0, NONE), less);
+                if (size[0] > 0) T.due("saved", x.saved(0, 255), 0);
+                T.due("afternoon again", x.afternoon(7, NONE), less);
+                T.due("lend again", x.lend(NONE), 5 * less);
+            }
+        }
+        VisitingHours x = new VisitingHours();
+        x.image();
+        Checks.ground(x, lines(HOST, 8));
+        Checks.ground(x, lines(GUEST, 8));
+        T.is("eight", () -> x.lend(NONE) + x.afternoon(0, NONE), 48);
+        x.back();
+        T.is("none again", () -> x.lend(NONE) + x.afternoon(0, NONE), 0);
     }
 
     private static void lendRefused() {

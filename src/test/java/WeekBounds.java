@@ -1,3 +1,5 @@
+import java.util.Arrays;
+
 /** Promises 20 and 43 to 49: WEEKS, what is AHEAD, TRIALS, and THE LOG. */
 final class WeekBounds extends Bounds {
     static void all() {
@@ -441,6 +443,26 @@ final class WeekBounds extends Bounds {
         T.is("without hosts", () -> new VisitingHours().trial(60, false), 0);
     }
 
+    /** By some rain seed 1, by some seed 6 is alone the least or the greatest, and seeds 0 and 7 would be beyond these. */
+    private static void spanOfSix() {
+        boolean[] alone = new boolean[8];
+        boolean[] beyond = new boolean[8];
+        for (int rain = 1; rain < 100; rain++) {
+            int[] glad = new int[8];
+            for (int seed = 0; seed < 8; seed++) for (int q = 1; q <= 8; q++) if (draw(seed, q) % 100 >= rain) glad[seed] += 5;
+            int[] six = Arrays.copyOfRange(glad, 1, 7);
+            Arrays.sort(six);
+            for (int seed = 0; seed < 8; seed++) {
+                alone[seed] |= glad[seed] < six[1] || glad[seed] > six[4];
+                beyond[seed] |= glad[seed] < six[0] || glad[seed] > six[5];
+            }
+            VisitingHours x = full(rain);
+            T.due("the least by rain " + rain, x.span(1, false), six[0]);
+            T.due("the greatest by rain " + rain, x.span(1, true), six[5]);
+        }
+        T.due("the first and the last count, those beside them would", alone[1] && alone[6] && beyond[0] && beyond[7], true);
+    }
+
     private static void span() {
         holds(47, "SPAN: the least and the greatest GLADNESS so from SEED 1, 2, .. 6.");
         for (int rain : new int[] {0, 1, 30, 50, 70, 99, 100}) {
@@ -459,6 +481,7 @@ final class WeekBounds extends Bounds {
                 T.due("the seed stays", x.seed(7), 7);
             }
         }
+        spanOfSix();
         VisitingHours x = full(0);
         x.weeks(1);
         T.is("0 weeks: now", () -> x.span(0, false), 40);
