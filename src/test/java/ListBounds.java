@@ -192,6 +192,12 @@ final class ListBounds extends Bounds {
         Checks.law(x, "admit if quarter<1");
         x.strike(0, 1);
         T.is("in a quarter in which it is not let in", () -> x.saved(0, 1), 1);
+        VisitingHours z = some(1, 1);
+        z.book(0, 0, 7);
+        for (int q = 0; q < 7; q++) {
+            int dry = 1 << q;
+            T.is("the one dry quarter " + q, () -> z.saved(0, ~dry), 1);
+        }
         VisitingHours y = some(1, 1);
         for (int q = 0; q < 4; q++) y.book(0, 0, q);
         T.is("four of one guest", () -> y.saved(0, 15), 4);

@@ -220,6 +220,13 @@ final class OddsBounds extends Bounds {
         T.is("six and two", x::alike, 16);
         x.value(1, 0, false, 9);
         T.is("ranks by the guests are not looked at", x::alike, 16);
+        VisitingHours z = some(2, 8);
+        for (int g = 0; g < 8; g++) {
+            z.value(1, g, true, 6);
+            T.due("another rank of guest " + g, z.alike(), 0);
+            z.value(0, g, true, 6);
+            T.due("the same rank of guest " + g, z.alike(), 1);
+        }
         VisitingHours y = Checks.with("host patience 0 from 0 to 6;host patience 9 from 0 to 6;host patience 0 from 0 to 7;host patience 0 from 1 to 7;" + GUEST);
         T.is("hours, not patience", y::alike, 1);
     }

@@ -113,19 +113,27 @@ final class PairBounds extends Bounds {
         Checks.ground(y, "likes 0 98111111;likes 1 89111111;likes 2 11981111;likes 3 11891111;likes 4 11119811;likes 5 11118911;likes 6 11111198;likes 7 11111189");
         Checks.ground(y, "loves 0 89111111;loves 1 98111111;loves 2 11891111;loves 3 11981111;loves 4 11118911;loves 5 11119811;loves 6 11111189;loves 7 11111198");
         T.is("two by two by two by two", y::ways, 16);
-        VisitingHours z = some(8, 8);
-        for (int part = 0; part < 2; part++) {
-            StringBuilder text = new StringBuilder();
-            for (int one = 0; one < 8; one++) {
-                text.append(one == 0 ? "" : ";").append(part == 0 ? "likes " : "loves ").append(one).append(' ');
-                for (int other = 0; other < 8; other++) {
-                    int far = Math.floorMod(other - one - part, 8);
-                    text.append(far < 8 ? 9 - far : 1);
-                }
+        VisitingHours ring = eight((host, guest) -> 9 - Math.floorMod(guest - host, 8), (host, guest) -> 2 + Math.floorMod(guest - host, 8));
+        T.is("a ring of eight", ring::ways, 8);
+        VisitingHours most = eight((host, guest) -> 9 - (host ^ guest), (host, guest) -> 2 + (host ^ guest));
+        T.is("the most that eight and eight are known to have", most::ways, 268);
+        T.is("the hosts' first wishes", () -> 10 * most.hostBest(0) + most.hostBest(7), 7);
+        T.is("the guests' first wishes", () -> 10 * most.guestBest(0) + most.guestBest(7), 70);
+    }
+
+    interface Rank {
+        int of(int host, int guest);
+    }
+
+    private static VisitingHours eight(Rank byHost, Rank byGuest) {
+        VisitingHours x = some(8, 8);
+        for (int host = 0; host < 8; host++) {
+            for (int guest = 0; guest < 8; guest++) {
+                x.value(host, guest, true, byHost.of(host, guest));
+                x.value(host, guest, false, byGuest.of(host, guest));
             }
-            Checks.ground(z, text.toString());
         }
-        T.is("a ring of eight", z::ways, 8);
+        return x;
     }
 
     private static int rather(VisitingHours x, int... row) {

@@ -317,6 +317,8 @@ final class WeekBounds extends Bounds {
         holds(48, "LED: how many rows (week false), or the WEEK; NONE.");
         T.is("none", () -> x.led(2, false), 0);
         T.is("of none", () -> x.led(2, true), NONE);
+        T.is("of the first", () -> x.led(0, false), 0);
+        T.is("of the first", () -> x.led(0, true), NONE);
         x.book(0, 0, 0);
         x.weeks(2);
         T.is("of meetings", () -> x.led(0, false), 2);
