@@ -16,6 +16,8 @@ public final class ModelTest {
     private static final String[] TOLD = {"rather", "rules", "send", "hand"};
     /** What an object answers to later calls is free. */
     private static final int MOST_CALLS = 512;
+    /** All HOSTS and GUESTS that there may be: more than a single text can tell. */
+    private static final int CROWD = 8;
     private static final int[] ODD = {-1, -2, 8, 9, 60, 61, 63, 64, 255, 256, Integer.MAX_VALUE, Integer.MIN_VALUE, -8};
 
     private final Random random;
@@ -37,7 +39,7 @@ public final class ModelTest {
         long first = args.length > 1 ? Long.parseLong(args[1]) : 1;
         int failed = 0;
         for (long seed = first; seed < first + runs && failed < 3; seed++) {
-            int size = args.length > 2 ? Integer.parseInt(args[2]) : seed % 50 == 0 ? 6 : seed % 10 == 0 ? 5 : seed % 3 == 0 ? 3 : 4;
+            int size = args.length > 2 ? Integer.parseInt(args[2]) : seed % 300 == 0 ? CROWD : seed % 50 == 0 ? 6 : seed % 10 == 0 ? 5 : seed % 3 == 0 ? 3 : 4;
             String wrong = new ModelTest(seed, size).run();
             if (wrong != null) {
                 failed++;
@@ -88,7 +90,7 @@ public final class ModelTest {
     }
 
     private String run() throws Exception {
-        String wrong = text(true, ground(true));
+        String wrong = size == CROWD ? crowd() : text(true, ground(true));
         for (int i = 0; wrong == null && i < 120; i++) {
             hosts = model.count(0);
             guests = model.count(1);
@@ -180,6 +182,24 @@ public final class ModelTest {
         Class<?>[] types = find(VisitingHours.class, name).getParameterTypes();
         if (wrong != null) return wrong;
         return types.length == 0 ? call(name) : call(name, random.nextBoolean());
+    }
+
+    private String crowd() throws Exception {
+        List<String> lines = new ArrayList<>();
+        for (int h = 0; h < CROWD; h++) lines.add("host patience " + random.nextInt(10) + " " + hours());
+        String wrong = told(lines);
+        for (int g = 0; g < CROWD; g++) lines.add("guest stay " + (1 + random.nextInt(3)) + " " + hours());
+        wrong = wrong == null ? told(lines) : wrong;
+        for (int h = 0; h < CROWD; h++) lines.add("likes " + h + " " + ranks(CROWD));
+        wrong = wrong == null ? told(lines) : wrong;
+        for (int g = 0; g < CROWD; g++) lines.add("loves " + g + " " + ranks(CROWD));
+        return wrong == null ? told(lines) : wrong;
+    }
+
+    private String told(List<String> lines) throws Exception {
+        String wrong = tell(String.join(";", lines).getBytes("ISO-8859-1"));
+        lines.clear();
+        return wrong == null ? call("ground") : wrong;
     }
 
     private String text(boolean ground, String text) throws Exception {
